@@ -1,0 +1,245 @@
+import java.lang.reflect.InvocationTargetException;
+import java.lang.reflect.Method;
+import java.lang.reflect.Modifier;
+import java.util.ArrayList;
+import java.util.LinkedHashMap;
+import java.util.List;
+import java.util.Map;
+import java.util.Random;
+
+/** Long runs of calls, the same each time, on the class and on the plain model of the document. */
+public final class RandomRunsTest {
+  /** What the arguments of each call are like: one letter each. */
+  private static final String[] CALLS = {
+    "order o", "term s c e e e", "clear s", "add s s c", "times s s", "turn s t", "even s", "orbit s", "like s",
+    "coefficient s e e e", "lead s w", "norm s", "at s i i i m", "poly s h f n", "spread s h f", "family t",
+    "generator s", "give g s", "ofGenerator g k", "drop", "made g p q", "grown g i i i m", "closed", "through s",
+    "rows e e e", "row e e e r g", "monoid d w", "root e e e", "rank w", "lattice r g", "span w w", "inSpan v v v",
+    "index", "relations d", "relation d r w g", "part d r w", "difference d r s", "open d", "complete d",
+    "wouldGrow d w", "certified d", "subduct s", "member s", "step p q", "witness s", "sheet h b z", "cell h f v",
+    "item h f", "move h f h f z", "link k l", "run s w", "loosen", "keep", "back", "count k"};
+  private static final int[] STRANGE = {-1, 7, 8, 41, -1000, 1000, Integer.MIN_VALUE, Integer.MAX_VALUE};
+
+  private static final Map<String, Method> CLASS = new LinkedHashMap<>();
+  private static final Map<String, Method> MODEL = new LinkedHashMap<>();
+  private static int wrong = 0;
+  private static long made = 0;
+  private static final Map<String, Map<String, Integer>> seen = new LinkedHashMap<>();
+
+  private final Random random;
+  private final int run;
+  private final GrownAlgebra algebra = new GrownAlgebra();
+  private final Model model = new Model();
+  private final List<String> told = new ArrayList<>();
+  private boolean failed = false;
+
+  private RandomRunsTest(int run) {
+    this.run = run;
+    random = new Random(run * 7919L + 17);
+  }
+
+  private int below(int n) {
+    return random.nextInt(n);
+  }
+
+  private int argument(char kind) {
+    if (below(60) == 0) return STRANGE[below(STRANGE.length)];
+    switch (kind) {
+      case 'o': return below(3);
+      case 's': return below(6);
+      case 'c': return below(3) > 0 ? below(5) - 2 : below(2) == 0 ? below(1999) - 999 : below(2) == 0 ? 999 : -999;
+      case 'e': return below(3) > 0 ? below(3) : below(7);
+      case 't': return below(6);
+      case 'w': return below(3) > 0 ? below(2) : below(5);
+      case 'i': return below(3) > 0 ? below(20) - 9 : random.nextInt();
+      case 'm': return below(3) > 0 ? 2 + below(999999) : below(2) == 0 ? below(4) : 999999 + below(3);
+      case 'h': return below(4);
+      case 'f': return below(3) > 0 ? below(9) : below(44) - 2;
+      case 'n': return below(11);
+      case 'g': return below(3) > 0 ? below(4) : below(8);
+      case 'k': return below(9);
+      case 'p': return below(3) > 0 ? below(6) : below(40);
+      case 'q': return below(9) - 1;
+      case 'r': return below(3) > 0 ? below(4) : below(20);
+      case 'd': return below(3) > 0 ? 4 + below(3) : below(8);
+      case 'v': return below(3) > 0 ? below(7) - 1 : below(2) == 0 ? below(2001) - 1000 : random.nextInt();
+      case 'b': return below(10) == 0 ? -1 : below(2);
+      case 'z': return below(3) > 0 ? below(42) : below(6);
+      case 'l': return below(6);
+      default: throw new IllegalStateException("no such kind: " + kind);
+    }
+  }
+
+  private long call(String name, int... given) {
+    Object[] arguments = new Object[given.length];
+    StringBuilder text = new StringBuilder(name + "(");
+    for (int i = 0; i < given.length; i++) {
+      arguments[i] = given[i];
+      text.append(i > 0 ? ", " : "").append(given[i]);
+    }
+    long want = answer(MODEL.get(name), model, arguments);
+    long got = answer(CLASS.get(name), algebra, arguments);
+    text.append(") ").append(got);
+    told.add(text.toString());
+    made++;
+    String sort = want < 0 ? want == GrownAlgebra.NO ? "NO" : String.valueOf(want < -14 ? "less" : want) : want == 0 ? "0" : "more";
+    seen.computeIfAbsent(name, n -> new LinkedHashMap<>()).merge(sort, 1, Integer::sum);
+    if (got != want && !failed) {
+      failed = true;
+      wrong++;
+      System.out.println("run " + run + ": " + String.join("; ", told.subList(Math.max(0, told.size() - 60), told.size())) + " <- due is " + want);
+    }
+    return got;
+  }
+
+  private static long answer(Method method, Object on, Object[] arguments) {
+    try {
+      return ((Number) method.invoke(on, arguments)).longValue();
+    } catch (InvocationTargetException e) {
+      if (e.getCause() instanceof Model.Refusal refusal) {
+        return method.getReturnType() == long.class ? Model.NO : refusal.answer;
+      }
+      throw new IllegalStateException(method.getName(), e.getCause());
+    } catch (IllegalAccessException e) {
+      throw new IllegalStateException(e);
+    }
+  }
+
+  private void randomCall() {
+    String[] words = CALLS[below(CALLS.length)].split(" ");
+    // Else there would hardly ever be many generators, nor anything kept for long.
+    if ((words[0].equals("drop") || words[0].equals("back") || words[0].equals("loosen")) && below(4) > 0) return;
+    int[] given = new int[words.length - 1];
+    for (int i = 0; i < given.length; i++) given[i] = argument(words[i + 1].charAt(0));
+    call(words[0], given);
+  }
+
+  /** A polynomial that can often be a generator. */
+  private void makePolynomial(int s, boolean high) {
+    call("clear", s);
+    int d = 1 + below(high ? 6 : 3);
+    int a = below(d + 1);
+    int b = below(d - a + 1);
+    call("term", s, 1, a, b, d - a - b);
+    int more = below(4);
+    for (int i = 0; i < more; i++) {
+      int e = below(d + 1);
+      int x = below(e + 1);
+      int y = below(e - x + 1);
+      call("term", s, below(8) == 0 ? below(1999) - 999 : below(3) - 1, x, y, e - x - y);
+    }
+  }
+
+  /** A coefficient near the bound. */
+  private void blowUp(int s) {
+    call("clear", s);
+    call("term", s, 999, 0, 0, 0);
+    int times = below(3);
+    for (int i = 0; i < times; i++) call("times", s, s);
+    int adds = below(4);
+    for (int i = 0; i < adds; i++) call("add", s, s, below(999));
+    if (below(2) == 0) {
+      call("term", s, 1, below(3), below(3), below(3));
+    }
+  }
+
+  private void makeGenerators() {
+    int how = below(4);
+    if (how == 0) {
+      int n = (int) call("family", below(6));
+      for (int s = 0; s < n; s++) call("generator", s);
+    } else {
+      boolean high = below(4) == 0;
+      int n = 2 + below(6);
+      for (int i = 0; i < n; i++) {
+        int s = below(6);
+        if (how == 3 && below(3) == 0) {
+          blowUp(s);
+        } else {
+          makePolynomial(s, high);
+        }
+        call("generator", s);
+      }
+    }
+  }
+
+  /** Everything that can be asked without a change. */
+  private void askAll() {
+    for (int s = 0; s < 6; s++) {
+      call("norm", s);
+      call("like", s);
+      for (Model.Term t : Model.ALL) call("coefficient", s, t.a(), t.b(), t.c());
+      for (int w = 0; w < 5; w++) call("lead", s, w);
+    }
+    for (int g = 0; g < 7; g++) {
+      for (int w = 0; w < 9; w++) call("ofGenerator", g, w);
+      int parts = Math.max(0, (int) call("ofGenerator", g, 6));
+      for (int i = 0; i < parts; i++) for (int w = -1; w < 7; w++) call("made", g, i, w);
+      for (int i = 0; i < 7; i++) call("lattice", i, g);
+      call("grown", g, 2, 3, 5, 1000000);
+    }
+    for (int i = 0; i < 4; i++) for (int j = 0; j < 3; j++) call("span", i, j);
+    for (int w = 0; w < 9; w++) call("count", w);
+    int steps = (int) call("count", 2);
+    for (int i = 0; i < steps; i++) for (int w = -1; w < 7; w++) call("step", i, w);
+    for (int h = 0; h < 4; h++) for (int i = 0; i < 40; i++) call("item", h, i);
+  }
+
+  private void askOfRelations() {
+    int n = (int) call("relations", 6);
+    for (int r = 0; r < n; r++) {
+      for (int g = 0; g < 7; g++) {
+        call("relation", 6, r, 0, g);
+        call("relation", 6, r, 1, g);
+      }
+      for (int i = 0; i < 7; i++) call("part", 6, r, i);
+    }
+    for (int d = 1; d <= 6; d++) {
+      call("relations", d);
+      call("open", d);
+      call("certified", d);
+      for (int w = 0; w < 3; w++) call("monoid", d, w);
+    }
+    for (Model.Term t : Model.ALL) {
+      int rows = (int) call("rows", t.a(), t.b(), t.c());
+      call("root", t.a(), t.b(), t.c());
+      for (int i = 0; i < rows; i++) for (int g = 0; g < 7; g++) call("row", t.a(), t.b(), t.c(), i, g);
+    }
+  }
+
+  private void go(int calls) {
+    if (below(2) == 0) call("order", below(3));
+    if (below(8) > 0) makeGenerators();
+    askOfRelations();
+    if (below(2) == 0) {
+      for (int w = 0; w < 3; w++) call("wouldGrow", 4 + below(3), w);
+      call("complete", 4 + below(3));
+      askAll();
+    }
+    if (below(3) == 0) blowUp(below(6));
+    for (int i = 0; i < calls && !failed; i++) {
+      randomCall();
+      if (below(100) == 0) makePolynomial(below(6), false);
+      if (below(150) == 0) blowUp(below(6));
+    }
+    askAll();
+    askOfRelations();
+  }
+
+  private static void methodsOf(Class<?> from, Map<String, Method> into) {
+    for (Method m : from.getDeclaredMethods()) if (Modifier.isPublic(m.getModifiers())) into.put(m.getName(), m);
+  }
+
+  public static void main(String[] args) {
+    methodsOf(GrownAlgebra.class, CLASS);
+    methodsOf(Model.class, MODEL);
+    int runs = args.length > 0 ? Integer.parseInt(args[0]) : 400;
+    int from = args.length > 1 ? Integer.parseInt(args[1]) : 0;
+    for (int run = from; run < from + runs && wrong < 5; run++) {
+      new RandomRunsTest(run).go(300);
+    }
+    if (args.length > 2) seen.forEach((name, sorts) -> System.out.println(name + " " + sorts));
+    System.out.println(made + " calls in " + runs + " runs, " + wrong + " runs with a wrong answer");
+    if (wrong != 0) System.exit(1);
+  }
+}
