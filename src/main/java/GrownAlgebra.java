@@ -1341,7 +1341,7 @@ public final class GrownAlgebra {
       partRows[part] = row;
       partCounts[g]++;
       for (int h = 0; h < g; h++) {
-        if (Generators.power(row, h) > 0) {
+        if (power(row, h) > 0) {
           heights[g] = Math.max(heights[g], heights[h] + 1);
         }
       }
@@ -1384,7 +1384,7 @@ public final class GrownAlgebra {
         int part = partPlace(g, i);
         long here = Math.floorMod(partCoefficients[part], (long) m);
         for (int h = 0; h < g; h++) {
-          here = Poly.timesPower(here, worths[h], Generators.power(partRows[part], h), m);
+          here = Poly.timesPower(here, worths[h], power(partRows[part], h), m);
         }
         together = (together + here) % m;
       }
@@ -1394,7 +1394,7 @@ public final class GrownAlgebra {
     int degreeOfRow(int row) {
       int degree = 0;
       for (int g = 0; g < size; g++) {
-        degree += Generators.power(row, g) * Terms.DEGREES[leads[g]];
+        degree += power(row, g) * Terms.DEGREES[leads[g]];
       }
       return degree;
     }
@@ -1403,8 +1403,8 @@ public final class GrownAlgebra {
     long costOf(int row) {
       long cost = 1;
       for (int g = 0; g < size; g++) {
-        int power = Generators.power(row, g);
-        for (int i = 0; i < power; i++) {
+        int often = power(row, g);
+        for (int i = 0; i < often; i++) {
           cost = productOrAbove(cost, norms[g]);
         }
       }
@@ -1416,8 +1416,8 @@ public final class GrownAlgebra {
       into.becomeZero();
       into.at[0] = 1;
       for (int g = 0; g < size; g++) {
-        int power = Generators.power(row, g);
-        for (int i = 0; i < power; i++) {
+        int often = power(row, g);
+        for (int i = 0; i < often; i++) {
           into.multiplyBy(polys[g]);
         }
       }

@@ -130,17 +130,21 @@ public final class RandomRunsTest {
     }
   }
 
-  /** A coefficient near the bound. */
+  /** A coefficient near the bound, or near a small part of it, or near what is above it when squared. */
   private void blowUp(int s) {
+    long n = below(3) > 0 ? Long.MAX_VALUE / (1 + below(9)) : 1L << 20 + below(20);
+    n = below(2) == 0 ? n - below(1200) : n - (random.nextLong() >>> 3) % n;
+    int d = below(4);
+    int x = below(d + 1);
+    int y = below(d - x + 1);
     call("clear", s);
-    call("term", s, 999, 0, 0, 0);
-    int times = below(3);
-    for (int i = 0; i < times; i++) call("times", s, s);
-    int adds = below(4);
-    for (int i = 0; i < adds; i++) call("add", s, s, below(999));
-    if (below(2) == 0) {
-      call("term", s, 1, below(3), below(3), below(3));
+    long unit = 1;
+    while (n / unit >= 999) unit *= 999;
+    for (; unit > 0; unit /= 999) {
+      call("add", s, s, 998);
+      call("term", s, (int) (n / unit % 999), x, y, d - x - y);
     }
+    if (below(2) == 0) call("term", s, 1, below(3), below(3), below(3));
   }
 
   private void makeGenerators() {
