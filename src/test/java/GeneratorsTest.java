@@ -14,6 +14,7 @@ public final class GeneratorsTest {
     drop();
     made();
     grown();
+    grownAgain();
     closed();
     through();
     Script.end();
@@ -54,6 +55,9 @@ public final class GeneratorsTest {
         ofGenerator(5,1)=5 ofGenerator(5,3)=6 ofGenerator(5,5)=3 ofGenerator(5,6)=2 ofGenerator(2,5)=0 ofGenerator(2,6)=0 ofGenerator(5,8)=1""");
     Script.promise(20, "steps are parts", STEPPING + """
         complete(2)=0 count(0)=3 ofGenerator(2,0)=0 ofGenerator(2,1)=1 ofGenerator(2,6)=3 ofGenerator(2,5)=1 ofGenerator(2,8)=1""");
+    Script.promise(20, "the height is by those in its parts alone", """
+        term(0,1,1,0,0)=1 generator(0)=0 term(1,1,2,0,0)=1 term(1,1,0,1,0)=2 generator(1)=1 term(2,1,3,0,0)=1 term(2,1,0,0,1)=2 generator(2)=2
+        complete(3)=0 count(0)=5 ofGenerator(3,1)=1 ofGenerator(3,5)=1 ofGenerator(4,2)=1 ofGenerator(4,5)=1 ofGenerator(4,6)=2""");
     Script.promise(20, "another row", """
         term(0,1,1,0,0)=1 generator(0)=0 term(1,1,2,0,0)=1 generator(1)=1 term(2,1,0,3,0)=1 generator(2)=2
         ofGenerator(0,7)=0 ofGenerator(1,7)=1 ofGenerator(2,7)=0""");
@@ -83,6 +87,12 @@ public final class GeneratorsTest {
         complete(6)=0 grown(0,2,3,5,1000)=5 grown(2,2,3,5,1000)=18 grown(3,2,3,5,1000)=54 grown(4,2,3,5,1000)=162 grown(5,2,3,5,1000)=486
         grown(5,2,-3,5,1000)=514 grown(5,2,3,5,2)=0 grown(5,1,1,0,1000000)=1 grown(3,MIN,1,0,1000)=352
         grown(5,2,3,5,1)=NO grown(5,2,3,5,1000001)=NO grown(6,2,3,5,7)=NO grown(-1,2,3,5,7)=NO grown(5,2,3,5,0)=NO""");
+  }
+
+  private static void grownAgain() {
+    Script.promise(23, "grown again, of fewer parts", STEPPING + """
+        complete(2)=0 ofGenerator(2,6)=3 drop()=2 drop()=1 clear(1)=3 term(1,1,2,0,0)=1 term(1,1,0,1,0)=2 generator(1)=1 complete(2)=0
+        ofGenerator(2,6)=2 grown(2,3,5,7,100)=5 made(2,2,-1)=NO""");
   }
 
   private static void closed() {

@@ -109,6 +109,9 @@ public final class PolynomialsTest {
     Script.promise(6, "deep", """
         term(0,1,0,6,0)=1 term(1,1,0,0,1)=1 times(0,1)=DEEP times(1,0)=DEEP term(2,5,0,0,0)=1 times(0,2)=1 coefficient(0,0,6,0)=5
         times(0,3)=0 term(0,1,6,0,0)=1 times(3,0)=0 term(4,1,3,0,0)=1 times(4,4)=1 coefficient(4,6,0,0)=1""");
+    Script.promise(6, "the last place", """
+        term(0,1,0,0,6)=1 term(1,1,1,0,0)=1 times(0,1)=DEEP times(1,0)=DEEP term(2,5,0,0,0)=1 times(0,2)=1 coefficient(0,0,0,6)=5
+        times(2,0)=1 coefficient(2,0,0,6)=25 clear(1)=1 term(1,1,0,0,3)=1 times(1,1)=1 coefficient(1,0,0,6)=1""");
     Script.promise(6, "wide", """
         big(0,L/7,1,0,0) term(1,-7,1,0,0)=1 times(0,1)=1 coefficient(0,2,0,0)=-9223372036854775807
         big(0,L/7+1,1,0,0) times(0,1)=WIDE coefficient(0,1,0,0)=L/7+1 big(2,L,6,0,0) times(2,1)=DEEP clear(1)=1
@@ -207,6 +210,8 @@ public final class PolynomialsTest {
         family(5)=3 sheet(0,1,11)=1 cell(0,8,77)=1 spread(1,0,0)=2 item(0,0)=1 item(0,1)=3 item(0,2)=0 item(0,3)=0 item(0,4)=-2 item(0,5)=0
         item(0,8)=77 spread(1,0,4)=1 item(0,4)=1 item(0,5)=3 item(0,8)=77 spread(1,0,8)=0 spread(1,0,11)=0 spread(1,0,12)=OUTSIDE
         spread(1,0,-1)=OUTSIDE spread(5,0,0)=0 item(0,0)=1 spread(5,0,11)=0 spread(5,0,12)=OUTSIDE""");
+    Script.promise(16, "the last place", "order(2)=0 term(0,7,0,0,6)=1 term(0,8,0,1,5)=2 sheet(0,0,8)=1 spread(0,0,0)=2 item(0,0)=7 item(0,3)=6 item(0,4)=8");
+    Script.promise(16, "the first place", "term(0,7,6,0,0)=1 term(0,8,0,0,6)=2 term(0,9,0,0,0)=3 sheet(0,0,12)=1 spread(0,0,0)=3 item(0,0)=7 item(0,1)=6 item(0,4)=8 item(0,7)=6 item(0,8)=9");
     Script.promise(16, "refused", """
         spread(-1,0,0)=BAD spread(6,0,0)=BAD spread(0,-1,0)=BAD spread(0,4,0)=BAD spread(0,0,0)=NOTHING spread(0,0,-1)=NOTHING
         sheet(0,0,0)=1 spread(0,0,0)=0 spread(0,0,1)=OUTSIDE spread(0,0,MAX)=OUTSIDE spread(0,0,MIN)=OUTSIDE""");

@@ -147,11 +147,36 @@ public final class RandomRunsTest {
     if (below(2) == 0) call("term", s, 1, below(3), below(3), below(3));
   }
 
+  /** Leading terms that divide one term, so that it has many rows, with tails by which much grows. */
+  private void makeDivisors() {
+    int a = below(5);
+    int b = below(6 - a);
+    int c = 6 - a - b;
+    boolean tails = below(3) > 0;
+    int n = 4 + below(4);
+    for (int i = 0; i < n; i++) {
+      call("clear", 0);
+      int x = below(a + 1);
+      int y = below(b + 1);
+      int z = below(c + 1);
+      call("term", 0, 1, x, y, z);
+      for (int k = 0; tails && k < 2; k++) {
+        int e = Math.max(0, x + y + z - 1 - below(2));
+        int f = below(e + 1);
+        int g = below(e - f + 1);
+        call("term", 0, below(3) - 1, f, g, e - f - g);
+      }
+      call("generator", 0);
+    }
+  }
+
   private void makeGenerators() {
-    int how = below(4);
+    int how = below(6);
     if (how == 0) {
       int n = (int) call("family", below(6));
       for (int s = 0; s < n; s++) call("generator", s);
+    } else if (how > 3) {
+      makeDivisors();
     } else {
       boolean high = below(4) == 0;
       int n = 2 + below(6);
@@ -211,6 +236,17 @@ public final class RandomRunsTest {
     }
   }
 
+  /** Other generators in the place of those that are kept, ahead of back(). */
+  private void goBack() {
+    call("keep");
+    for (int left = below(8); left > 0; left--) call("drop");
+    if (below(3) == 0) call("order", below(3));
+    makeGenerators();
+    call("complete", 6);
+    call("back");
+    askAll();
+  }
+
   private void go(int calls) {
     if (below(2) == 0) call("order", below(3));
     if (below(8) > 0) makeGenerators();
@@ -225,6 +261,7 @@ public final class RandomRunsTest {
       randomCall();
       if (below(100) == 0) makePolynomial(below(6), false);
       if (below(150) == 0) blowUp(below(6));
+      if (below(200) == 0) goBack();
     }
     askAll();
     askOfRelations();

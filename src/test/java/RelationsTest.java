@@ -28,6 +28,10 @@ public final class RelationsTest {
   }
 
   private static void relation() {
+    // Of the rows of y^4 z^2 the last one joins the first two; the third one is a group of its own.
+    Script.promise(36, "joined, and one behind them", MonoidTest.terms(0, 2, 2, 0, 4, 0, 0, 2, 1, 0, 0, 2, 0, 2, 0) + """
+        relations(6)=3 relation(6,0,0,0)=1 relation(6,0,1,3)=1 relation(6,0,1,4)=1 relation(6,1,0,1)=1 relation(6,1,1,4)=2
+        relation(6,2,0,0)=1 relation(6,2,0,4)=1 relation(6,2,1,0)=0 relation(6,2,1,1)=0 relation(6,2,1,2)=2 relation(6,2,1,3)=0""");
     Script.promise(36, "sides", MonoidTest.FOUR + """
         relation(2,0,0,0)=1 relation(2,0,0,1)=1 relation(2,0,0,2)=0 relation(2,0,1,0)=0 relation(2,0,1,2)=1 relation(2,0,1,3)=0
         relation(2,1,0,0)=2 relation(2,1,0,1)=0 relation(2,1,1,0)=0 relation(2,1,1,3)=1 relation(2,2,0,0)=NONE relation(2,-1,0,0)=NONE relation(1,0,0,0)=NONE
@@ -112,6 +116,10 @@ public final class RelationsTest {
     Script.promise(42, "rank 1, something is left", GeneratorsTest.FAMILY_0 + "certified(3)=0 certified(4)=0 certified(6)=0");
     Script.promise(42, "rank 2", MonoidTest.FOUR + "certified(6)=0");
     Script.promise(42, "wide", WIDE_DIFFERENCE + "certified(1)=0 certified(2)=WIDE certified(7)=BAD");
+    // (x + A)^2 - x^2 leaves 2 A x + A^2, and a step of 2 A times x + A.
+    Script.promise(42, "just not wide", """
+        big(0,1700000000,0,0,0) term(0,1,1,0,0)=2 generator(0)=0 term(1,1,2,0,0)=1 generator(1)=1 certified(2)=1
+        drop()=1 drop()=0 big(0,1800000000,0,0,0) term(0,1,1,0,0)=2 generator(0)=0 generator(1)=1 difference(2,0,5)=2 certified(2)=WIDE""");
     Script.promise(42, "less what is below 0", """
         term(0,1,1,0,0)=1 generator(0)=0 term(1,1,2,0,0)=1 term(1,3,1,0,0)=2 term(1,-2,0,0,0)=3 generator(1)=1 certified(2)=1 certified(1)=0""");
     Script.promise(42, "rank 1 that is no relation of groups", MonoidTest.terms(1, 1, 0, 2, 2, 0, 0, 0, 1) + "rank(0)=1 certified(3)=0 certified(4)=1");

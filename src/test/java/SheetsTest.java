@@ -95,6 +95,13 @@ public final class SheetsTest {
     Script.promise(54, "what isn't kept", "sheet(0,0,3)=1 keep()=0 link(6,0)=1 sheet(1,1,3)=1 cell(0,0,5)=1 back()=0 count(5)=2 count(7)=1 item(0,0)=5");
     Script.promise(54, "a copy", "term(0,1,1,0,0)=1 keep()=0 term(0,1,0,0,0)=2 back()=0 lead(0,4)=1 term(0,2,0,1,0)=2 back()=0 lead(0,4)=1");
     Script.promise(55, "stays", GeneratorsTest.FAMILY_0 + "keep()=3 complete(6)=0 back()=3 count(0)=3 complete(5)=0 back()=3 rows(1,3,0)=0 relations(6)=1 count(4)=1");
+    Script.promise(55, "others stood in their places", GeneratorsTest.STEPPING + """
+        complete(2)=0 keep()=3 drop()=2 drop()=1 drop()=0 big(0,4294967296,0,0,0) term(0,1,1,0,0)=2 generator(0)=0
+        clear(1)=3 term(1,1,2,0,0)=1 generator(1)=1 complete(2)=3 drop()=1 clear(1)=1 term(1,1,0,1,0)=1 generator(1)=1 term(2,1,0,2,0)=1 term(2,1,0,0,1)=2 generator(2)=2
+        complete(2)=0 count(0)=4 ofGenerator(3,5)=1
+        back()=3 give(0,5)=1 give(1,5)=3 give(2,5)=1 coefficient(5,0,1,0)=1 ofGenerator(2,5)=1 ofGenerator(2,6)=3
+        made(2,0,-1)=-1 made(2,0,0)=2 made(2,1,-1)=1 made(2,1,1)=1 made(2,2,-1)=-1 made(2,2,0)=1 grown(2,3,5,7,100)=5
+        complete(2)=0 certified(2)=1 term(4,1,2,0,0)=1 member(4)=1 subduct(4)=1 rank(0)=1 lattice(0,0)=2""");
     Script.promise(55, "none", "term(0,1,0,0,0)=1 subduct(0)=1 back()=NONE count(6)=1 count(4)=0");
     Script.promise(55, "the witness is gone", "term(0,1,0,0,0)=1 keep()=0 subduct(0)=1 count(6)=1 keep()=0 count(6)=1 back()=0 count(6)=0 step(0,-1)=NO");
   }

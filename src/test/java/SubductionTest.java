@@ -40,6 +40,10 @@ public final class SubductionTest {
     Script.promise(44, "wide by cost", """
         big(0,4294967296,0,0,0) term(0,1,1,0,0)=2 generator(0)=0 term(1,1,2,0,0)=1 member(1)=WIDE term(2,1,1,0,0)=1 member(2)=1 member(0)=1
         term(3,1,6,0,0)=1 member(3)=WIDE""");
+    Script.promise(44, "wide by a cost far above", """
+        big(0,4611686018427387903,0,0,0) term(0,1,1,0,0)=2 norm(0)=4611686018427387904 generator(0)=0
+        term(1,1,2,0,0)=1 member(1)=WIDE clear(1)=1 term(1,1,3,0,0)=1 member(1)=WIDE clear(1)=1 term(1,1,4,0,0)=1 member(1)=WIDE
+        clear(1)=1 term(1,1,5,0,0)=1 member(1)=WIDE clear(1)=1 term(1,1,6,0,0)=1 member(1)=WIDE subduct(1)=WIDE lead(1,0)=6""");
     Script.promise(44, "the norm as it is then", """
         term(0,1,1,0,0)=1 generator(0)=0 term(1,1,1,0,0)=1 big(2,L-2,0,1,0) add(1,2,1)=2 member(1)=0
         big(2,L-1,0,1,0) clear(1)=2 term(1,1,1,0,0)=1 add(1,2,1)=2 norm(1)=L member(1)=WIDE""");
