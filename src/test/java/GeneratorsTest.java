@@ -120,6 +120,10 @@ public final class GeneratorsTest {
     Script.promise(25, "deep ahead of wide", """
         term(0,1,2,0,0)=1 term(0,1,0,1,0)=2 generator(0)=0 clear(0)=2 term(0,1,0,1,0)=1 generator(0)=1 clear(0)=1 term(0,1,0,0,1)=1 generator(0)=2
         big(1,L,1,0,0) through(1)=WIDE big(1,L-1,1,0,0) term(1,1,4,0,0)=2 through(1)=DEEP""");
+    Script.promise(25, "a cost whose powers come to 0 in 64 bits", """
+        big(0,4611686018427387903,0,0,0) term(0,1,1,0,0)=2 generator(0)=0 clear(0)=2 term(0,1,0,1,0)=1 generator(0)=1 clear(0)=1 term(0,1,0,0,1)=1 generator(0)=2
+        term(1,1,2,0,0)=1 through(1)=WIDE clear(1)=1 term(1,1,3,0,0)=1 through(1)=WIDE clear(1)=1 term(1,1,4,0,0)=1 through(1)=WIDE
+        clear(1)=1 term(1,1,5,0,0)=1 through(1)=WIDE clear(1)=1 term(1,1,6,0,0)=1 through(1)=WIDE""");
     Script.promise(25, "a cost far above", """
         big(0,L-1,0,0,0) term(0,1,1,0,0)=2 generator(0)=0 clear(0)=2 term(0,1,0,1,0)=1 generator(0)=1 clear(0)=1 term(0,1,0,0,1)=1 generator(0)=2
         term(1,1,6,0,0)=1 through(1)=WIDE term(2,1,1,0,0)=1 through(2)=2 norm(2)=L term(3,1,1,1,0)=1 through(3)=2 norm(3)=L
