@@ -67,6 +67,8 @@ final class GeneratorEdges {
         gens(0,x;y;xy;x^2) relations(2)=2 rows(2,2,0)=4 row(2,2,0,2,1)=2 row(2,2,0,2,3)=1 row(2,2,0,3,2)=2 relations(4)=2 relations(6)=2""");
     Edge.part(2, "and so on from one to the next", """
         gens(0,y^2z^2;y^4;y^2z;z^2;y^2) rows(0,4,2)=4 relations(6)=3 relation(6,2,0,0)=1 relation(6,2,0,4)=1 relation(6,2,1,0)=0 relation(6,2,1,2)=2 relation(6,3,0,0)=NONE""");
+    Edge.part(2, "and so on from one to the next", """
+        gens(0,y^2z;y;yz;yz^2;y^2) rows(0,3,2)=4 relations(1)=0 relations(2)=1 relations(3)=2 relations(4)=3 relations(5)=3 relations(6)=3""");
     Edge.part(2, "GROUPS stand as their first ROWS do", """
         gens(0,x^2;y^2;x;y;xy) relations(2)=3 relation(2,0,0,1)=1 relation(2,0,1,3)=2 relation(2,1,0,2)=1 relation(2,1,0,3)=1 relation(2,1,1,4)=1
         relation(2,2,0,0)=1 relation(2,2,1,2)=2 relation(2,3,0,0)=NONE""");
@@ -79,7 +81,8 @@ final class GeneratorEdges {
         term(1,1,0,1,0)=3 generator(1)=1 difference(2,0,2)=WIDE open(2)=WIDE complete(2)=3 wouldGrow(2,1)=3""");
     Edge.part(2, "A RELATION CLOSES, if 0 is LEFT", "gens(0,x;x^2) open(6)=NONE drop()=1 gens(0,x^2+1) open(6)=NONE drop()=1 gens(0,x^2+y) open(6)=0 gens(0,y) open(6)=NONE");
     Edge.part(2, "HEIGHT: of a FIRST one 0", """
-        gens(0,x+y;xy;xy^2) complete(6)=0 ofGenerator(0,5)=0 ofGenerator(1,5)=0 ofGenerator(2,5)=0 ofGenerator(3,5)=1 ofGenerator(4,5)=2 ofGenerator(5,5)=3 ofGenerator(6,5)=BAD""");
+        gens(0,x+y;xy;xy^2) complete(6)=0 ofGenerator(0,5)=0 ofGenerator(1,5)=0 ofGenerator(2,5)=0 ofGenerator(3,5)=1 ofGenerator(4,5)=2 ofGenerator(5,5)=3 ofGenerator(6,5)=BAD
+        drop()=5 drop()=4 put(0,z) generator(0)=4 ofGenerator(4,5)=0 ofGenerator(4,6)=0 ofGenerator(3,5)=1""");
     Edge.part(2, "of a GROWN one 1 more than the greatest of those that have a POWER above 0 in a PART of it", """
         gens(0,x;x^2+y;x^3+z) complete(3)=0 ofGenerator(3,5)=1 ofGenerator(4,5)=1 drop()=4 drop()=3 drop()=2 drop()=1 gens(0,x^2+y;x^3+y+z) complete(3)=0 count(0)=5
         ofGenerator(3,5)=1 ofGenerator(4,5)=2 ofGenerator(4,6)=3 made(4,2,3)=1""");
@@ -150,7 +153,10 @@ final class GeneratorEdges {
         grown(2,3,5,0,MIN)=NO grown(2,3,5,0,MAX)=NO grown(0,3,5,0,1)=NO grown(0,3,5,0,2)=1""");
     Edge.promise(23, "0 .. m - 1", """
         gens(0,x;x^2+y) complete(2)=0 grown(2,0,-1,0,1000000)=999999 grown(2,7,1000000,0,1000000)=0 grown(0,-1,0,0,1000000)=999999 grown(2,MAX,MIN,0,1000000)=516352
-        grown(2,MIN,MAX,0,1000000)=483647 grown(1,999999,0,0,1000000)=1 grown(2,999999,999999,0,1000000)=999999""");
+        grown(2,MIN,MAX,0,1000000)=483647 grown(2,0,0,0,2)=0 grown(1,999999,0,0,1000000)=1 grown(2,999999,999999,0,1000000)=999999""");
+    Edge.promise(23, "a GROWN one by its EXPRESSION of what those in it are worth", """
+        gens(0,x;x^2+y+x+1) complete(2)=0 ofGenerator(2,6)=4 grown(2,3,5,7,100)=5 drop()=2 drop()=1 gens(0,x^2+y) complete(2)=0 ofGenerator(2,6)=2 grown(2,3,5,7,100)=5 made(2,2,-1)=NO
+        gens(0,x^3+z) complete(3)=0 ofGenerator(4,6)=2 grown(4,3,5,7,100)=7 grown(3,3,5,7,100)=34 grown(1,3,5,7,100)=14""");
     Edge.promise(23, "NO: g, m", """
         grown(0,1,1,1,7)=NO gens(0,x;y) grown(1,1,1,1,7)=1 grown(2,1,1,1,7)=NO grown(-1,1,1,1,7)=NO grown(MIN,1,1,1,7)=NO grown(MAX,1,1,1,7)=NO grown(2,1,1,1,1)=NO""");
   }
@@ -161,7 +167,9 @@ final class GeneratorEdges {
         gens(0,x+2y) closed()=1 drop()=0 gens(0,x+y+z;x^2y+y^2z+xz^2) closed()=25 drop()=1 closed()=63 gens(0,y+1) closed()=33 drop()=1 gens(0,y;z) closed()=3 gens(0,x^2) closed()=3
         gens(0,y^2) closed()=1 gens(0,z^2) closed()=3""");
     Edge.promise(24, "(bits 0 .. 5)", """
-        gens(0,x) closed()=3 drop()=0 gens(0,y) closed()=33 drop()=0 gens(0,z) closed()=5 gens(0,x) closed()=33 gens(0,y) closed()=63""");
+        gens(0,x) closed()=3 drop()=0 gens(0,y) closed()=33 drop()=0 gens(0,z) closed()=5 gens(0,x) closed()=33 gens(0,y) closed()=63 drop()=2 closed()=33 drop()=1 closed()=5
+        gens(0,x;y;x^2;y^2;xy;z^2) closed()=5 drop()=6 closed()=5""");
+    Edge.promise(24, "by which each GENERATOR is some GENERATOR", "gens(0,x+1;y) closed()=1 drop()=1 gens(0,y+1) closed()=5 gens(0,z) closed()=5 drop()=2 gens(0,z+1) closed()=63");
   }
 
   private static void through() {
@@ -176,6 +184,9 @@ final class GeneratorEdges {
         put(1,y^3) through(1)=1 put(1,x^6) through(1)=1 put(1,x^5y+1) through(1)=DEEP put(1,z^6) through(1)=DEEP""");
     Edge.promise(25, "DEEP: for a TERM of it a, b, c times the DEGREES of these are above 6 together", """
         gens(0,x^6;y^6;z^6) put(1,x+y+z+1) through(1)=4 put(1,x^6) through(1)=DEEP put(1,xy) through(1)=DEEP put(1,x^2y^2z^2) through(1)=DEEP put(1,z^6) through(1)=DEEP put(1,5) through(1)=1 clear(1)=1 through(1)=0""");
+    Edge.promise(25, "SLOT s becomes itself with GENERATORS 0, 1, 2 put for x, y, z", SEVEN + """
+        put(1,x^6-2y+3) through(1)=3 coefficient(1,6,0,0)=1 coefficient(1,0,1,0)=-2 coefficient(1,0,0,0)=3 put(1,z^6) through(1)=1 put(1,xyz+xy) through(1)=2 coefficient(1,1,1,1)=1 coefficient(1,1,1,0)=1
+        put(1,5x^2y) subduct(1)=1 put(2,z) through(2)=1 coefficient(2,0,0,1)=1 norm(2)=1 put(1,5x^2y) subduct(1)=1 through(2)=1 norm(2)=1 member(2)=1 through(2)=1 norm(2)=1""");
     Edge.promise(25, "DEEP: for a TERM of it", "gens(0,y;xz;x^2) put(1,z) through(1)=1 lead(1,0)=2 put(1,x+z^4) through(1)=DEEP put(1,z^3+x) through(1)=2 put(1,y^4+x) through(1)=DEEP put(1,y^2z+x^6) through(1)=2");
   }
 

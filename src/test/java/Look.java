@@ -51,7 +51,7 @@ final class Look {
   }
 
   private void atGenerators() {
-    for (int g = 0; ask("ofGenerator", g, 3) != GrownAlgebra.BAD; g++) {
+    for (int g = 0; g < 7 && ask("ofGenerator", g, 3) != GrownAlgebra.BAD; g++) {
       ask("ofGenerator", g, 0);
       ask("ofGenerator", g, 1);
       ask("ofGenerator", g, 5);
@@ -83,7 +83,7 @@ final class Look {
 
   private void atSheets() {
     for (int sheet = 0; sheet <= 3; sheet++) {
-      for (int i = 0; ask("item", sheet, i) != GrownAlgebra.NO; i++);
+      for (int i = 0; i < 40 && ask("item", sheet, i) != GrownAlgebra.NO; i++);
       // What is put in bytes comes out of them as their lowest 8 bits.
       ask("cell", sheet, 0, 200);
       ask("item", sheet, 0);

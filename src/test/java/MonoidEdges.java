@@ -78,6 +78,10 @@ final class MonoidEdges {
     Edge.promise(31, "NO: there is none such", FOUR + """
         lattice(0,0)=1 lattice(1,3)=1 lattice(2,0)=NO lattice(-1,0)=NO lattice(MIN,0)=NO lattice(MAX,0)=NO lattice(0,4)=NO lattice(0,-1)=NO lattice(0,MIN)=NO lattice(0,MAX)=NO""");
     Edge.promise(31, "NO: there is none such", "lattice(0,0)=NO gens(0,x;y;z) lattice(0,0)=NO gens(0,xyz) lattice(0,0)=1 lattice(0,3)=-1 lattice(1,0)=NO lattice(0,4)=NO drop()=3 lattice(0,0)=NO");
+    Edge.promise(31, "Row i of the BASIS of THE LATTICE OF RELATIONS", """
+        gens(0,z;z^2;yz^3) rank(0)=1 lattice(0,0)=2 lattice(0,1)=-1 lattice(0,2)=0 span(0,1)=1 span(0,2)=0 span(1,2)=1 gens(0,z^3) rank(0)=2 lattice(0,0)=1 lattice(0,1)=1 lattice(0,2)=0 lattice(0,3)=-1
+        lattice(1,0)=0 lattice(1,1)=3 lattice(1,3)=-2 inSpan(5,6,7)=0 part(2,0,1)=-1 part(2,0,0)=2 gens(0,x) rank(0)=2 lattice(0,0)=1 lattice(0,1)=1 lattice(0,2)=0 lattice(0,3)=-1 lattice(0,4)=0 lattice(1,1)=3 lattice(1,3)=-2 lattice(1,4)=0 rank(1)=3
+        part(2,0,0)=2 drop()=4 drop()=3 gens(0,x) rank(0)=1 lattice(0,0)=2 lattice(0,1)=-1 lattice(0,2)=0 lattice(0,3)=0""");
   }
 
   private static void span() {

@@ -160,9 +160,10 @@ final class PolynomialEdges {
         put(0,x) put(5,y) times(0,5)=1 times(5,0)=1 times(-1,0)=BAD times(6,0)=BAD times(0,-1)=BAD times(0,6)=BAD times(MIN,0)=BAD times(0,MAX)=BAD""");
     Edge.promise(6, "DEEP", """
         put(0,x^3) put(1,y^3+1) put(2,z^4+1) times(0,2)=DEEP times(2,0)=DEEP times(0,1)=2 put(0,x^6) times(0,0)=DEEP put(3,5) times(0,3)=1
-        times(3,0)=1 put(3,z+5) times(0,3)=DEEP times(3,0)=DEEP put(4,x^3) times(4,4)=1 lead(4,3)=6 put(4,x^4) times(4,4)=DEEP""");
+        times(3,0)=1 put(3,z+5) times(0,3)=DEEP times(3,0)=DEEP put(4,x^3) times(4,4)=1 lead(4,3)=6 put(4,x^4) times(4,4)=DEEP
+        put(0,2z^6) put(3,-3) times(0,3)=1 coefficient(0,0,0,6)=-6 times(3,0)=1 coefficient(3,0,0,6)=18""");
     Edge.promise(6, "how many TERMS it has", """
-        put(0,x^6+1) times(0,1)=0 put(0,x^6+1) times(1,0)=0 times(1,1)=0 put(1,x+1) put(2,x-1) times(1,2)=2 put(3,1) times(1,3)=2 put(3,-1) times(3,3)=1""");
+        put(0,x^6+1) times(0,1)=0 put(0,x^6+1) times(1,0)=0 times(1,1)=0 put(1,x+1) put(2,x-1) times(1,2)=2 coefficient(1,0,0,0)=-1 times(2,2)=3 coefficient(2,0,0,0)=1 coefficient(2,1,0,0)=-2 put(3,1) times(1,3)=2 put(3,-1) times(3,3)=1 coefficient(3,0,0,0)=1""");
     Edge.promise(6, "WIDE: one NORM times the other one is above LARGEST", """
         big(0,L/7,1,0,0) put(1,3x-4y) times(0,1)=2 norm(0)=L big(0,L/7+1,1,0,0) times(0,1)=WIDE times(1,0)=WIDE
         big(0,L,1,0,0) put(1,-1) times(0,1)=1 put(1,2) times(0,1)=WIDE times(0,2)=0""");
@@ -201,7 +202,7 @@ final class PolynomialEdges {
   private static void like() {
     Edge.promise(10, "The first SLOT that holds the same POLYNOMIAL", """
         like(0)=0 like(5)=0 put(0,x) like(0)=0 like(1)=1 like(5)=1 put(5,x) like(5)=0 put(5,-x) like(5)=5 put(4,-x) like(5)=4 put(4,x+z^6) like(5)=5 like(4)=4
-        put(3,z^6+x) like(4)=3""");
+        put(3,z^6+x) like(4)=3 put(1,x) like(1)=0 put(1,x+1) like(1)=1 put(1,x-1) put(2,x+1) like(2)=2""");
     Edge.promise(10, "BAD", "like(-1)=BAD like(6)=BAD like(MIN)=BAD like(MAX)=BAD");
   }
 
@@ -236,7 +237,7 @@ final class PolynomialEdges {
         put(0,-1) at(0,0,0,0,2)=1 at(0,0,0,0,1000000)=999999 at(1,3,4,5,7)=0 put(0,x+y) at(0,999999,1,0,1000000)=0 at(0,-5,4,0,10)=9""");
     Edge.promise(14, "What SLOT s is worth with those for x, y, z", """
         put(0,1) at(0,0,0,0,7)=1 put(0,x^6) at(0,999999,0,0,1000000)=1 at(0,0,9,9,7)=0 put(0,x) at(0,MAX,0,0,1000000)=483647 at(0,MIN,0,0,1000000)=516352
-        put(0,xy^2z^3) at(0,MIN,MIN,MIN,3)=1 at(0,MAX,1,1,2)=1 big(0,L,0,0,0) at(0,0,0,0,1000000)=775807 add(1,0,-1)=1 at(1,0,0,0,1000000)=224193""");
+        put(0,xy^2z^3) at(0,2,1,1,1000)=2 at(0,1,3,1,1000)=9 at(0,1,1,2,1000)=8 at(0,5,3,2,1000)=360 at(0,MIN,MIN,MIN,3)=1 at(0,MAX,1,1,2)=1 big(0,L,0,0,0) at(0,0,0,0,1000000)=775807 add(1,0,-1)=1 at(1,0,0,0,1000000)=224193""");
     Edge.promise(14, "NO: slot, m", "at(0,1,1,1,2)=0 at(5,1,1,1,2)=0 at(-1,1,1,1,2)=NO at(6,1,1,1,2)=NO at(MIN,1,1,1,2)=NO at(MAX,1,1,1,2)=NO at(6,1,1,1,1)=NO");
   }
 
@@ -299,6 +300,6 @@ final class PolynomialEdges {
   private static void family() {
     Edge.promise(17, "(0 .. 5)", "family(0)=3 family(5)=3 norm(1)=3 family(-1)=BAD family(6)=BAD family(MIN)=BAD family(MAX)=BAD norm(1)=3");
     Edge.promise(17, "the other ones stay: how many these are", """
-        put(2,7x) put(3,8x) put(4,9x) family(1)=3 norm(2)=1 norm(3)=8 norm(4)=9 family(3)=4 norm(3)=3 norm(4)=9 family(4)=4 norm(4)=9 norm(5)=0 family(2)=3 norm(3)=1 family(0)=3 family(5)=3 norm(3)=1""");
+        put(0,5z+1) put(1,6z^6) put(2,7x) put(3,8x) put(4,9x) family(1)=3 norm(0)=3 norm(1)=3 norm(2)=1 norm(3)=8 norm(4)=9 family(3)=4 norm(3)=3 norm(4)=9 family(4)=4 norm(4)=9 norm(5)=0 family(2)=3 norm(3)=1 family(0)=3 family(5)=3 norm(3)=1""");
   }
 }

@@ -1,13 +1,11 @@
-import java.lang.reflect.InvocationTargetException;
-import java.lang.reflect.Method;
-import java.lang.reflect.Modifier;
 import java.util.ArrayList;
+import java.util.Collections;
 import java.util.LinkedHashMap;
 import java.util.List;
 import java.util.Map;
 import java.util.Random;
 
-/** Long runs of calls, the same each time, on the class and on the plain model of the document. */
+/** Runs of as many calls as an object is used for, the same each time, on the class and on the plain model of the document. */
 public final class RandomRunsTest {
   /** What the arguments of each call are like: one letter each. */
   private static final String[] CALLS = {
@@ -20,8 +18,6 @@ public final class RandomRunsTest {
     "item h f", "move h f h f z", "link k l", "run s w", "loosen", "keep", "back", "count k"};
   private static final int[] STRANGE = {-1, 7, 8, 41, -1000, 1000, Integer.MIN_VALUE, Integer.MAX_VALUE};
 
-  private static final Map<String, Method> CLASS = new LinkedHashMap<>();
-  private static final Map<String, Method> MODEL = new LinkedHashMap<>();
   private static int wrong = 0;
   private static long made = 0;
   private static final Map<String, Map<String, Integer>> seen = new LinkedHashMap<>();
@@ -31,7 +27,13 @@ public final class RandomRunsTest {
   private final GrownAlgebra algebra = new GrownAlgebra();
   private final Model model = new Model();
   private final List<String> told = new ArrayList<>();
-  private boolean failed = false;
+
+  /** The end of a run: there are no more calls to make, or an answer was wrong. */
+  private static final class Enough extends RuntimeException {
+    Enough() {
+      super(null, null, false, false);
+    }
+  }
 
   private RandomRunsTest(int run) {
     this.run = run;
@@ -71,38 +73,20 @@ public final class RandomRunsTest {
   }
 
   private long call(String name, int... given) {
-    Object[] arguments = new Object[given.length];
-    StringBuilder text = new StringBuilder(name + "(");
-    for (int i = 0; i < given.length; i++) {
-      arguments[i] = given[i];
-      text.append(i > 0 ? ", " : "").append(given[i]);
-    }
-    long want = answer(MODEL.get(name), model, arguments);
-    long got = answer(CLASS.get(name), algebra, arguments);
-    text.append(") ").append(got);
-    told.add(text.toString());
+    if (told.size() == Call.MOST) throw new Enough();
+    Call call = new Call(name, given);
+    long want = call.on(model);
+    long got = call.on(algebra);
+    told.add(call + " " + got);
     made++;
     String sort = want < 0 ? want == GrownAlgebra.NO ? "NO" : String.valueOf(want < -14 ? "less" : want) : want == 0 ? "0" : "more";
     seen.computeIfAbsent(name, n -> new LinkedHashMap<>()).merge(sort, 1, Integer::sum);
-    if (got != want && !failed) {
-      failed = true;
+    if (got != want) {
       wrong++;
-      System.out.println("run " + run + ": " + String.join("; ", told.subList(Math.max(0, told.size() - 60), told.size())) + " <- due is " + want);
+      System.out.println("run " + run + ": " + String.join("; ", told) + " <- due is " + want);
+      throw new Enough();
     }
     return got;
-  }
-
-  private static long answer(Method method, Object on, Object[] arguments) {
-    try {
-      return ((Number) method.invoke(on, arguments)).longValue();
-    } catch (InvocationTargetException e) {
-      if (e.getCause() instanceof Model.Refusal refusal) {
-        return method.getReturnType() == long.class ? Model.NO : refusal.answer;
-      }
-      throw new IllegalStateException(method.getName(), e.getCause());
-    } catch (IllegalAccessException e) {
-      throw new IllegalStateException(e);
-    }
   }
 
   private void randomCall() {
@@ -192,48 +176,61 @@ public final class RandomRunsTest {
     }
   }
 
-  /** Everything that can be asked without a change. */
-  private void askAll() {
+  /** Of all that can be asked of what is there, some questions. */
+  private void askAll(int most) {
+    List<Call> all = new ArrayList<>();
     for (int s = 0; s < 6; s++) {
-      call("norm", s);
-      call("like", s);
-      for (Model.Term t : Model.ALL) call("coefficient", s, t.a(), t.b(), t.c());
-      for (int w = 0; w < 5; w++) call("lead", s, w);
+      all.add(new Call("norm", s));
+      all.add(new Call("like", s));
+      for (Model.Term t : model.slots.get(s).m.keySet()) all.add(new Call("coefficient", s, t.a(), t.b(), t.c()));
+      for (int w = 0; w < 5; w++) all.add(new Call("lead", s, w));
     }
-    for (int g = 0; g < 7; g++) {
-      for (int w = 0; w < 9; w++) call("ofGenerator", g, w);
-      int parts = Math.max(0, (int) call("ofGenerator", g, 6));
-      for (int i = 0; i < parts; i++) for (int w = -1; w < 7; w++) call("made", g, i, w);
-      for (int i = 0; i < 7; i++) call("lattice", i, g);
-      call("grown", g, 2, 3, 5, 1000000);
+    for (int g = 0; g < model.gens.size(); g++) {
+      for (int w = 0; w < 9; w++) all.add(new Call("ofGenerator", g, w));
+      int parts = model.gens.get(g).parts().size();
+      for (int i = 0; i < parts; i++) for (int w = -1; w < 7; w++) all.add(new Call("made", g, i, w));
+      for (int i = 0; i < 7; i++) all.add(new Call("lattice", i, g));
+      all.add(new Call("grown", g, 2, 3, 5, 1000000));
+      all.add(new Call("give", g, 5));
     }
-    for (int i = 0; i < 4; i++) for (int j = 0; j < 3; j++) call("span", i, j);
-    for (int w = 0; w < 9; w++) call("count", w);
-    int steps = (int) call("count", 2);
-    for (int i = 0; i < steps; i++) for (int w = -1; w < 7; w++) call("step", i, w);
-    for (int h = 0; h < 4; h++) for (int i = 0; i < 40; i++) call("item", h, i);
+    for (int i = 0; i < 4; i++) for (int j = 0; j < 3; j++) all.add(new Call("span", i, j));
+    for (int w = 0; w < 9; w++) all.add(new Call("count", w));
+    int steps = model.count(2);
+    for (int i = 0; i < steps; i++) for (int w = -1; w < 7; w++) all.add(new Call("step", i, w));
+    for (int h = 0; h < 4; h++) if (model.sheets[h] != null) for (int i = 0; i < model.sheets[h].length; i++) all.add(new Call("item", h, i));
+    ask(all, most);
   }
 
-  private void askOfRelations() {
-    int n = (int) call("relations", 6);
+  private void askOfRelations(int most) {
+    List<Call> all = new ArrayList<>();
+    int n = model.relations(6);
+    int gens = model.gens.size();
     for (int r = 0; r < n; r++) {
-      for (int g = 0; g < 7; g++) {
-        call("relation", 6, r, 0, g);
-        call("relation", 6, r, 1, g);
+      for (int g = 0; g < gens; g++) {
+        all.add(new Call("relation", 6, r, 0, g));
+        all.add(new Call("relation", 6, r, 1, g));
       }
-      for (int i = 0; i < 7; i++) call("part", 6, r, i);
+      for (int i = 0; i < gens; i++) all.add(new Call("part", 6, r, i));
+      all.add(new Call("difference", 6, r, 4));
     }
     for (int d = 1; d <= 6; d++) {
-      call("relations", d);
-      call("open", d);
-      call("certified", d);
-      for (int w = 0; w < 3; w++) call("monoid", d, w);
+      all.add(new Call("relations", d));
+      all.add(new Call("open", d));
+      all.add(new Call("certified", d));
+      for (int w = 0; w < 3; w++) all.add(new Call("monoid", d, w));
     }
     for (Model.Term t : Model.ALL) {
-      int rows = (int) call("rows", t.a(), t.b(), t.c());
-      call("root", t.a(), t.b(), t.c());
-      for (int i = 0; i < rows; i++) for (int g = 0; g < 7; g++) call("row", t.a(), t.b(), t.c(), i, g);
+      all.add(new Call("rows", t.a(), t.b(), t.c()));
+      all.add(new Call("root", t.a(), t.b(), t.c()));
+      int rows = model.rowsOf(t).size();
+      for (int i = 0; i < rows; i++) for (int g = 0; g < gens; g++) all.add(new Call("row", t.a(), t.b(), t.c(), i, g));
     }
+    ask(all, most);
+  }
+
+  private void ask(List<Call> all, int most) {
+    Collections.shuffle(all, random);
+    for (int i = 0; i < all.size() && i < most; i++) call(all.get(i).name(), all.get(i).arguments());
   }
 
   /** Other generators in the place of those that are kept, ahead of back(). */
@@ -244,40 +241,39 @@ public final class RandomRunsTest {
     makeGenerators();
     call("complete", 6);
     call("back");
-    askAll();
+    askAll(60);
   }
 
-  private void go(int calls) {
+  private void go() {
     if (below(2) == 0) call("order", below(3));
     if (below(8) > 0) makeGenerators();
-    askOfRelations();
+    askOfRelations(below(120));
     if (below(2) == 0) {
       for (int w = 0; w < 3; w++) call("wouldGrow", 4 + below(3), w);
       call("complete", 4 + below(3));
-      askAll();
+      askAll(below(120));
+      askOfRelations(below(60));
     }
     if (below(3) == 0) blowUp(below(6));
-    for (int i = 0; i < calls && !failed; i++) {
+    // Till there is an end of calls.
+    for (;;) {
       randomCall();
       if (below(100) == 0) makePolynomial(below(6), false);
       if (below(150) == 0) blowUp(below(6));
-      if (below(200) == 0) goBack();
+      if (below(150) == 0) goBack();
+      if (below(150) == 0) askAll(50);
     }
-    askAll();
-    askOfRelations();
-  }
-
-  private static void methodsOf(Class<?> from, Map<String, Method> into) {
-    for (Method m : from.getDeclaredMethods()) if (Modifier.isPublic(m.getModifiers())) into.put(m.getName(), m);
   }
 
   public static void main(String[] args) {
-    methodsOf(GrownAlgebra.class, CLASS);
-    methodsOf(Model.class, MODEL);
-    int runs = args.length > 0 ? Integer.parseInt(args[0]) : 400;
+    int runs = args.length > 0 ? Integer.parseInt(args[0]) : 2500;
     int from = args.length > 1 ? Integer.parseInt(args[1]) : 0;
     for (int run = from; run < from + runs && wrong < 5; run++) {
-      new RandomRunsTest(run).go(300);
+      try {
+        new RandomRunsTest(run).go();
+      } catch (Enough end) {
+        // The next one.
+      }
     }
     if (args.length > 2) seen.forEach((name, sorts) -> System.out.println(name + " " + sorts));
     System.out.println(made + " calls in " + runs + " runs, " + wrong + " runs with a wrong answer");

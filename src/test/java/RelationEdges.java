@@ -72,6 +72,10 @@ final class RelationEdges {
 
   private static void part() {
     Edge.promise(37, "how often row i is in it", "gens(0,x;y;xy;x^2) relations(2)=2 part(2,0,0)=1 part(2,0,1)=0 part(2,1,0)=2 part(2,1,1)=-1 drop()=3 gens(0,z) part(2,0,0)=1 part(2,0,1)=NO");
+    Edge.promise(37, "LEFT less RIGHT, is a whole sum of the rows of the BASIS", """
+        gens(0,x^2;x;x^3) relations(3)=2 lattice(0,1)=1 lattice(0,2)=-1 lattice(1,1)=3 lattice(1,2)=-1 part(2,0,0)=1 part(2,0,1)=-1 part(3,1,0)=1 part(3,1,1)=0
+        drop()=2 gens(0,y) rank(0)=1 lattice(0,0)=1 lattice(0,1)=-2 lattice(0,2)=0 part(2,0,0)=1 part(2,0,1)=NO drop()=2 drop()=1 drop()=0
+        gens(0,y;x;x^2;z;z^2) rank(0)=2 lattice(0,0)=0 lattice(0,1)=2 lattice(1,3)=2 part(2,0,0)=0 part(2,0,1)=1 part(2,1,0)=1 part(2,1,1)=0""");
     Edge.promise(37, "NO: d, r, i", """
         part(1,0,0)=NO gens(0,x;x^2) part(2,0,0)=1 part(6,0,0)=1 part(1,0,0)=NO part(0,0,0)=NO part(7,0,0)=NO part(-1,0,0)=NO part(MIN,0,0)=NO part(MAX,0,0)=NO
         part(2,1,0)=NO part(2,-1,0)=NO part(2,MIN,0)=NO part(2,MAX,0)=NO part(2,0,1)=NO part(2,0,-1)=NO part(2,0,MIN)=NO part(2,0,MAX)=NO""");
@@ -123,7 +127,7 @@ final class RelationEdges {
 
   private static void certified() {
     Edge.promise(42, "BAD", "certified(1)=1 certified(6)=1 certified(0)=BAD certified(7)=BAD certified(-1)=BAD certified(MIN)=BAD certified(MAX)=BAD gens(0,x;x^2) certified(0)=BAD certified(7)=BAD");
-    Edge.promise(42, "the RANK of THE LATTICE OF RELATIONS is 0; or it is 1", "certified(1)=1 gens(0,x;y;z) certified(1)=1 gens(0,x^2) certified(1)=0 certified(2)=1 gens(0,y^2) certified(6)=0 drop()=4 gens(0,x^6) certified(6)=0");
+    Edge.promise(42, "the RANK of THE LATTICE OF RELATIONS is 0; or it is 1", "certified(1)=1 gens(0,x^3;y^6) certified(1)=1 certified(6)=1 drop()=1 drop()=0 gens(0,x;y;z) certified(1)=1 gens(0,x^2) certified(1)=0 certified(2)=1 gens(0,y^2) certified(6)=0 drop()=4 gens(0,x^6) certified(6)=0");
     Edge.promise(42, "has a TERM of DEGREE d at most", """
         gens(0,x^2;x^3) certified(5)=0 certified(6)=1 certified(1)=0 drop()=1 drop()=0 gens(0,x;x^6) certified(5)=0 certified(6)=1 drop()=1 drop()=0 gens(0,x^3;x^4) certified(6)=0 drop()=1 drop()=0
         gens(0,x^5y;xy^5) certified(6)=1 gens(0,x^4y^2) certified(6)=0 drop()=2 drop()=1 gens(0,x) certified(1)=1""");

@@ -137,6 +137,9 @@ final class SheetEdges {
     Edge.promise(54, "how many GENERATORS there are", "keep()=0 gens(0,x;y;z;x^2;y^2;z^2;xy) keep()=7 drop()=6 back()=7 give(6,0)=1 coefficient(0,1,1,0)=1 drop()=6 keep()=6 back()=6");
     Edge.promise(54, "All of a KEPT state is kept", """
         gens(0,x;x^2+y+x) complete(2)=0 keep()=3 drop()=2 drop()=1 drop()=0 order(2)=0 gens(0,z;y;x;xy) back()=3 count(3)=0 count(1)=1 ofGenerator(2,5)=1 ofGenerator(2,6)=3 made(2,0,-1)=-1 made(2,2,-1)=-1 made(2,2,0)=1 grown(2,3,5,7,100)=5 rows(2,0,0)=2""");
+    Edge.promise(54, "All of a KEPT state is kept", """
+        gens(0,x;x^2+y+x) complete(2)=0 keep()=3 drop()=2 drop()=1 drop()=0 gens(0,y;y^3-z+5y+7) complete(3)=0 count(0)=3 made(2,0,-1)=1 made(2,0,0)=3 made(2,2,-1)=5 big(0,L/4,0,0,0) term(0,1,1,0,0)=2 generator(0)=3
+        back()=3 made(2,0,-1)=-1 made(2,0,0)=2 made(2,1,1)=1 made(2,2,-1)=-1 made(2,2,0)=1 ofGenerator(2,5)=1 ofGenerator(2,6)=3 grown(2,3,5,7,100)=5 put(1,999x) member(1)=1 complete(2)=0""");
     Edge.promise(54, "All of a KEPT state is kept", "sheet(0,1,2)=1 link(6,0)=1 put(0,5) subduct(0)=1 keep()=0 count(6)=1 sheet(0,1,3)=1 cell(0,0,9)=1 link(6,0)=2 back()=0 item(0,0)=9 item(0,2)=0 count(7)=2 count(6)=0");
   }
 
