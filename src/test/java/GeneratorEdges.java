@@ -45,6 +45,7 @@ final class GeneratorEdges {
     Edge.part(2, "(of the ROW of nothing but 0: 1, as its PRODUCT)", """
         big(0,L/2,0,0,0) member(0)=1 subduct(0)=1 step(0,-1)=L/2 step(0,0)=0 witness(1)=1 coefficient(1,0,0,0)=L/2 big(0,L/2+1,0,0,0) member(0)=WIDE""");
     Edge.part(2, "by all TERMS from the greatest down", "gens(0,x+y;y+z;z+1) put(1,x) subduct(1)=4 step(0,0)=1 step(1,1)=1 step(2,2)=1 step(3,-1)=-1 step(3,2)=0 lead(1,4)=0");
+    Edge.part(2, "by all TERMS from the greatest down", "order(2)=0 gens(0,z+x;x) put(1,z) member(1)=1 subduct(1)=2 step(0,0)=1 step(1,-1)=-1 step(1,1)=1 drop()=1 drop()=0 order(1)=2 gens(0,x-z;z) put(1,x) subduct(1)=2 step(1,1)=1");
     Edge.part(2, "if its coefficient c there, as it is then, isn't 0", """
         gens(0,x+y;y) put(1,x+y) subduct(1)=1 put(1,x+2y) subduct(1)=2 step(1,-1)=1 put(1,x) subduct(1)=2 step(1,-1)=-1""");
     Edge.part(2, "and the TERM has a ROW", "gens(0,x^2+y) put(1,x^3+x^2+x+1) subduct(1)=2 step(0,0)=1 step(1,0)=0 lead(1,4)=3 coefficient(1,0,1,0)=-1");
@@ -54,12 +55,15 @@ final class GeneratorEdges {
     Edge.part(2, "WIDE: at a STEP its NORM, as it is then", """
         gens(0,x) big(1,L-2,0,1,0) term(1,1,1,0,0)=2 member(1)=0 big(1,L-2,0,1,0) term(1,2,1,0,0)=2 member(1)=WIDE big(1,L,0,1,0) member(1)=0 subduct(1)=0
         big(1,L/2,1,0,0) term(1,1,0,0,0)=2 member(1)=1 big(1,L/2,1,0,0) term(1,2,0,0,0)=2 member(1)=WIDE""");
+    Edge.part(2, "WIDE: at a STEP its NORM, as it is then", """
+        gens(0,x-3y;y) big(1,L/6,1,0,0) member(1)=1 big(1,L/6+1,1,0,0) member(1)=WIDE drop()=1 member(1)=0 drop()=0
+        gens(0,x+y) big(1,L/2,0,0,0) term(1,1,1,0,0)=2 term(1,1,0,1,0)=3 member(1)=1 term(1,1,0,0,0)=3 member(1)=WIDE""");
     Edge.part(2, "there is none at first, nor behind drop(), back()", """
         count(6)=0 witness(0)=NONE step(0,-1)=NO put(0,5) gens(1,x) subduct(0)=1 count(6)=1 witness(2)=1 drop()=0 count(6)=0 witness(2)=NONE step(0,-1)=NO
         subduct(1)=0 count(6)=1 count(2)=0 witness(2)=0 keep()=0 count(6)=1 back()=0 count(6)=0 witness(2)=NONE""");
     Edge.part(2, "the STEPS of the latest subduct() that wasn't refused", """
         put(0,5) put(1,x) subduct(0)=1 step(0,-1)=5 big(2,L,0,0,0) subduct(2)=WIDE subduct(6)=BAD step(0,-1)=5 count(6)=1 drop()=STATE back()=NONE step(0,-1)=5
-        member(1)=0 link(4,0)=1 run(3,0)=0 open(6)=NONE complete(6)=0 step(0,-1)=5 subduct(1)=0 step(0,-1)=NO count(6)=1""");
+        member(1)=0 link(4,0)=1 run(3,0)=0 open(6)=NONE complete(6)=0 step(0,-1)=5 gens(4,x) keep()=1 order(1)=STATE step(0,-1)=5 count(6)=1 witness(5)=1 put(1,y) subduct(1)=0 step(0,-1)=NO count(6)=1""");
   }
 
   private static void expressions() {
@@ -75,6 +79,9 @@ final class GeneratorEdges {
     Edge.part(2, "RELATIONS TO d (1 .. 6), numbered from 0 on", """
         gens(0,x;x^2;y^6;y^3) relations(0)=BAD relations(1)=0 relations(2)=1 relations(5)=1 relations(6)=2 relations(7)=BAD
         relation(6,-1,0,0)=NONE relation(6,0,0,0)=2 relation(6,1,0,2)=1 relation(6,2,0,0)=NONE relation(5,1,0,0)=NONE relation(1,0,0,0)=NONE""");
+    Edge.part(2, "by all TERMS of DEGREE d at most, from the least up", """
+        gens(0,x;z;x^2;z^2;x^3) relation(2,0,0,1)=2 relation(2,1,0,0)=2 relation(3,2,0,0)=3 drop()=4 drop()=3 drop()=2 drop()=1 drop()=0 order(2)=0
+        gens(0,x;z;x^2;z^2;x^3) relation(2,0,0,0)=2 relation(2,1,0,1)=2 relation(3,2,0,0)=3 relation(3,2,1,4)=1 relations(3)=3""");
     Edge.part(2, "each GROUP but the first in turn", "relations(6)=0 gens(0,x) relations(6)=0 gens(0,y) relations(6)=0 gens(0,xy) relations(6)=1 relation(6,0,0,0)=1 relation(6,0,1,2)=1");
     Edge.part(2, "WIDE: their COSTS are above LARGEST together", """
         gens(0,x) big(1,L-2,0,0,0) term(1,1,2,0,0)=2 generator(1)=1 difference(2,0,2)=1 norm(2)=L-2 drop()=1
